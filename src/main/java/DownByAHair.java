@@ -225,7 +225,13 @@ public final class DownByAHair {
         }
         Script script = scripts[text];
         for (int i = 0; i < script.clauses; i++) {
-            if (!act(script, i)) {
+            boolean done = switch (script.kind[i]) {
+                case PUT -> lay(script.first[i], script.second[i]);
+                case TAKE -> lift(script.first[i]);
+                case WAIT -> passHours(script.first[i]);
+                default -> true;
+            };
+            if (!done) {
                 return i;
             }
         }
@@ -442,15 +448,6 @@ public final class DownByAHair {
     private void weighWhatLies() {
         scales.setAir(state.hour, state.wet, state.wind);
         scales.weigh(state, state.left, state.right);
-    }
-
-    private boolean act(Script script, int clause) {
-        return switch (script.kind[clause]) {
-            case PUT -> lay(script.first[clause], script.second[clause]);
-            case TAKE -> lift(script.first[clause]);
-            case WAIT -> passHours(script.first[clause]);
-            default -> true;
-        };
     }
 
     private boolean lay(int thing, int pan) {
@@ -848,7 +845,15 @@ public final class DownByAHair {
             place = NONE;
             tokens.begin();
             for (int i = 0; i <= MOST_CLAUSES && fault == 0 && tokens.token != FINISH; i++) {
-                readClause();
+                int head = tokens.token;
+                int wrong = headFault(head);
+                if (wrong != 0) {
+                    fail(wrong);
+                } else if (head == BEARS || head == SAFE) {
+                    readLaw(head);
+                } else {
+                    readStep(head);
+                }
             }
             return fault == 0;
         }
@@ -860,19 +865,14 @@ public final class DownByAHair {
             }
         }
 
-        private void readClause() {
-            int head = tokens.token;
+        private int headFault(int head) {
             if (head < BEARS || head > WAIT) {
-                fail(CANT_STAND);
-            } else if (head == BEARS && script.bearsFrom != NONE || head == SAFE && script.safeFrom != NONE) {
-                fail(TWICE);
-            } else if (script.clauses == MOST_CLAUSES) {
-                fail(TOO_MANY);
-            } else if (head == BEARS || head == SAFE) {
-                readLaw(head);
-            } else {
-                readStep(head);
+                return CANT_STAND;
             }
+            if (head == BEARS && script.bearsFrom != NONE || head == SAFE && script.safeFrom != NONE) {
+                return TWICE;
+            }
+            return script.clauses == MOST_CLAUSES ? TOO_MANY : 0;
         }
 
         private void readStep(int head) {
@@ -888,11 +888,15 @@ public final class DownByAHair {
         }
 
         private int takeNumber(int most) {
-            int number = tokens.number;
-            if (tokens.token == NUMBER && number > most) {
+            if (tokens.token != NUMBER) {
+                fail(CANT_STAND);
+            } else if (tokens.number > most) {
                 fail(TOO_GREAT);
             }
-            takeToken(NUMBER);
+            int number = tokens.number;
+            if (fault == 0) {
+                tokens.advance();
+            }
             return number;
         }
 
@@ -938,13 +942,26 @@ public final class DownByAHair {
             int token = tokens.token;
             if (token == OPEN || token == MINUS || token == NOT && askBegins) {
                 openOne(token == MINUS ? NEGATE : token);
-            } else if (token == NUMBER) {
-                readNumber();
-            } else if (token >= FIRST_NAME) {
-                readName(token - FIRST_NAME);
-            } else {
-                fail(CANT_STAND);
+                return;
             }
+            int wrong = operandFault(token);
+            if (wrong != 0) {
+                fail(wrong);
+            } else {
+                takeOperand(token == NUMBER ? tokens.number : NAME_CODE + token - FIRST_NAME);
+            }
+        }
+
+        private int operandFault(int token) {
+            if (token == NUMBER) {
+                return tokens.number > MOST_NUMBER ? TOO_GREAT : 0;
+            }
+            if (token < FIRST_NAME) {
+                return CANT_STAND;
+            }
+            int name = token - FIRST_NAME;
+            boolean ofThisClause = name < THING || (name >= LEFT) == asks;
+            return ofThisClause ? 0 : WRONG_NAME;
         }
 
         private void openOne(int operation) {
@@ -956,23 +973,6 @@ public final class DownByAHair {
             brackets += operation == OPEN ? 1 : 0;
             askBegins = operation == NOT;
             keepWaiting(operation);
-        }
-
-        private void readNumber() {
-            if (tokens.number > MOST_NUMBER) {
-                fail(TOO_GREAT);
-                return;
-            }
-            takeOperand(tokens.number);
-        }
-
-        private void readName(int name) {
-            boolean ofThisClause = name < THING || (name >= LEFT) == asks;
-            if (!ofThisClause) {
-                fail(WRONG_NAME);
-                return;
-            }
-            takeOperand(NAME_CODE + name);
         }
 
         private void takeOperand(int item) {
@@ -1057,9 +1057,9 @@ public final class DownByAHair {
             int rightLoad = 0;
             for (int i = 0; i < state.things; i++) {
                 if ((leftThings >> i & 1) == 1) {
-                    leftLoad += borneOf(state, i, LEFT_PAN);
+                    leftLoad += borne(state.rule, i, state.weight[i], state.sort[i], LEFT_PAN);
                 } else if ((rightThings >> i & 1) == 1) {
-                    rightLoad += borneOf(state, i, RIGHT_PAN);
+                    rightLoad += borne(state.rule, i, state.weight[i], state.sort[i], RIGHT_PAN);
                 }
             }
             hang(state, leftLoad, rightLoad);
