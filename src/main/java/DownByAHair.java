@@ -51,7 +51,6 @@ public final class DownByAHair {
     private static final int NEGATE = 14;
     private static final int[] BINDS = {0, 1, 2, 3, 4, 4, 4, 4, 4, 4, 5, 5, 6, 6, 7};
     private static final int LOOSEST = 1;
-    private static final int TIGHTEST = 7;
 
     /** Tokens that are no operation stand behind the operations, names last. */
     private static final int CLOSE = 15;
@@ -674,9 +673,7 @@ public final class DownByAHair {
         void clear() {
             size = 0;
             bearsFrom = NONE;
-            bearsTo = NONE;
             safeFrom = NONE;
-            safeTo = NONE;
             clauses = 0;
         }
 
@@ -979,7 +976,6 @@ public final class DownByAHair {
             script.emit(item);
             askBegins = false;
             operandDue = false;
-            settle(TIGHTEST);
         }
 
         private void readOperation() {
@@ -1014,7 +1010,6 @@ public final class DownByAHair {
             waitingCount -= waitingCount > 0 ? 1 : 0;
             brackets--;
             open--;
-            settle(TIGHTEST);
         }
 
         private void keepWaiting(int operation) {
@@ -1024,7 +1019,7 @@ public final class DownByAHair {
             }
         }
 
-        /** What waits and binds as much as this, or more, has its operands. */
+        /** What waits and binds as much as this, or more, has its operands: a minus of a ONE with any operation. */
         private void settle(int least) {
             while (waitingCount > 0 && BINDS[waiting[waitingCount - 1]] >= least) {
                 waitingCount--;
@@ -1093,8 +1088,9 @@ public final class DownByAHair {
             }
             named[LEFT] = left;
             named[RIGHT] = right;
-            named[MOMENT] = moment;
-            named[TURNED] = Math.abs(moment);
+            // of all names these two alone can be more than a value may
+            named[MOMENT] = held(moment);
+            named[TURNED] = held(Math.abs(moment));
             return valueOf(rule.code, rule.safeFrom, rule.safeTo) != 0;
         }
 
@@ -1105,7 +1101,7 @@ public final class DownByAHair {
                 int operation = item - OPERATION_CODE;
                 if (item < OPERATION_CODE && top + 1 < values.length) {
                     top++;
-                    values[top] = held(item < NAME_CODE ? item : named[item - NAME_CODE]);
+                    values[top] = item < NAME_CODE ? item : named[item - NAME_CODE];
                 } else if (operation == NEGATE && top >= 0) {
                     values[top] = -values[top];
                 } else if (operation == NOT && top >= 0) {
@@ -1248,6 +1244,7 @@ public final class DownByAHair {
 
     /** Things that balance a load by their weights alone. */
     private static final class Counterpoise {
+        /** What each set of things weighs; the empty one, first, nothing. */
         final int[] sum = new int[1 << MOST_THINGS];
         int used;
         int beside;
@@ -1268,7 +1265,6 @@ public final class DownByAHair {
         }
 
         private void addSums(State state) {
-            sum[0] = 0;
             for (int i = 0; i < state.things; i++) {
                 for (int set = 0; set < 1 << i; set++) {
                     sum[set + (1 << i)] = sum[set] + state.weight[i];

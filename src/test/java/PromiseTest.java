@@ -196,8 +196,11 @@ public final class PromiseTest {
         due("it was not read", x.fault(0), 0);
         StringBuilder longest = new StringBuilder("bears 1");
         while (longest.length() < 299) longest.append("+1");
-        DownByAHair y = ruled(longest + ";", 1);
-        due("300 bytes", y.of(0, 3), 147);
+        DownByAHair y = withThings(1);
+        due("300 bytes and no end", Tape.read(y, longest + "+"), -1);
+        due("300 bytes", Tape.read(y, longest + ";"), 0);
+        y.by(0);
+        due("what was wrong left nothing", y.of(0, 3), 147);
         // a text's number is free again behind an image without it
         DownByAHair z = new DownByAHair();
         Tape.read(z, "bears 3;");
@@ -244,6 +247,11 @@ public final class PromiseTest {
         due("eight open", sum("((((((((7))))))))"), 7);
         due("eight minuses", sum("--------7"), 7);
         due("both kinds", sum("-(-(-(-(7))))"), 7);
+        String deepest = "1+1*(".repeat(8) + "1+1*1" + ")".repeat(8);
+        due("as much as can wait", sum(deepest), 10);
+        due("as much as can wait", ask("1=2 or 1=1 and 10=" + deepest), true);
+        due("as much as can wait", ask("1=2 or 1=1 and 11=" + deepest), false);
+        due("minuses wait too", sum("99+-(9+-(9+-(9+-1*2)*2)*2)*2"), 99 - 2 * (9 - 2 * (9 - 2 * (9 - 2))));
         due("loads", ask("left=20 and right=9"), true);
         due("moment", ask("moment=-7"), true);
         due("turned", ask("turned=7"), true);
@@ -253,6 +261,11 @@ public final class PromiseTest {
         due("at most", ask("left<=20"), true);
         due("more", ask("left>20"), false);
         due("at least", ask("left>=20"), true);
+        for (String relation : new String[] {"<", "<=", "=", "#", ">=", ">"}) {
+            boolean less = relation.charAt(0) == '<' || relation.equals("#");
+            due("sums on both sides of " + relation, ask("9-3" + relation + "2+5*1"), less);
+            due("a sum's sides of " + relation, ask("5-3" + relation + "2-1*0"), relation.endsWith("="));
+        }
         due("and binds", ask("1=1 or 1=1 and 1=2"), true);
         due("and binds", ask("1=2 and 1=1 or 1=1"), true);
         due("not binds", ask("not 1=2 and 1=2"), false);
@@ -288,6 +301,10 @@ public final class PromiseTest {
         fault("Bears 1;", 1, 0);
         fault("bears1;", 0, -1);
         fault("bearsx 1;", 1, 0);
+        for (String letter : new String[] {"a", "z", "A", "Z"}) fault("wait" + letter + "1;", 1, 0);
+        for (String other : new String[] {"`", "{", "@", "[", "_", "0x", "9x", ":", "."}) fault("wait" + other, 1, other.length() + 3);
+        fault("wait/1;", 1, 4);
+        fault("wait 1:", 1, 6);
         fault("1;", 1, 0);
         fault(";", 1, 0);
         fault("bears", 1, 5);
@@ -764,6 +781,7 @@ public final class PromiseTest {
         span(x, 6, 23, 28);
         x.reading(0, 2);
         span(x, 0, -1, -1);
+        x.forget();
         for (int what : new int[] {-1, 3, MIN, MAX}) due("span " + what, x.span(what), -1);
         // X is borne by the text as it is now at the weather as it was then; what lay weighs as it did then
         DownByAHair y = ruled("bears weight+10*wet+1000*(thing-12)*(thing-12)*(thing-7)+sort+pan;", 40);
@@ -797,8 +815,11 @@ public final class PromiseTest {
     private static void bent() {
         promise = 22;
         DownByAHair x = withThings(6);
-        due("all", x.bent(5, 0), 400);
-        due("the first", x.bent(5, 1), 101);
+        due("all", x.bent(1, 0), 400);
+        due("the first", x.bent(999, 1), 101);
+        for (int[] o : new int[][] {{0, 0}, {1000, 0}, {MIN, 0}, {MAX, 1}, {5, 2}, {5, -1}, {5, MIN}}) {
+            due("bent " + o[0] + " " + o[1], x.bent(o[0], o[1]), -1);
+        }
         x.put(0, 0);
         x.reading(1, 0);
         // 6 l = 4 r: (2, 3), (4, 6), .., (12, 18)
@@ -819,11 +840,7 @@ public final class PromiseTest {
         x.weather(0, 0, 0);
         x.reading(1, 2);
         due("against it", x.bent(6, 0), 0);
-        for (int[] o : new int[][] {{0, 0}, {1000, 0}, {MIN, 0}, {MAX, 1}, {5, 2}, {5, -1}, {5, MIN}}) {
-            due("bent " + o[0] + " " + o[1], x.bent(o[0], o[1]), -1);
-        }
-        due("edge", x.bent(999, 0), 0);
-        due("edge", x.bent(1, 1), -1);
+        due("against it", x.bent(1, 1), -1);
         // X as thing 12 of sort 0 by the text now
         DownByAHair y = ruled("bears weight*2+thing-12+sort;", 6);
         y.by(-1);
@@ -872,6 +889,8 @@ public final class PromiseTest {
         balanced(u, 1, 2, 2049, 2048);
         balanced(u, 999, 1, 1, 0);
         balanced(u, 500, -1, -1, -1);
+        DownByAHair all = withThings(83, 83, 83, 83, 83, 83, 83, 83, 83, 83, 83, 83);
+        balanced(all, 996, 12, 4095, 0);
         // weights alone, whatever the text and the pans say
         DownByAHair t = ruled("bears 500;", 7, 2);
         t.put(0, 0);
@@ -987,6 +1006,7 @@ public final class PromiseTest {
         due("steps are back", x.undo(), 1);
         due("what lay", x.about(13), 0);
         due("what lay", x.about(12), 1);
+        readingsAreKept();
         // the tape and the fault are of no image
         Tape.lay(x, "bears 1;");
         x.image();
@@ -997,6 +1017,37 @@ public final class PromiseTest {
         x.back();
         due("the fault stays", x.fault(0), 1);
         due("its place", x.fault(1), 0);
+    }
+
+    /** Each part of a reading is told in its span or its arms: they are as ahead of another reading in its place. */
+    private static void readingsAreKept() {
+        DownByAHair x = ruled("bears weight+hour*2+wet*3+wind*4+pan;", 70, 40);
+        x.beam(3, 2, 25);
+        x.weather(5, 4, 3);
+        x.put(0, 0);
+        x.put(1, 1);
+        x.reading(1, 0);
+        // 3 * 104 - 2 * (75 + X + 35) + 30 is within 25: X is 49 to 73
+        span(x, 25, 49, 73);
+        int bent = x.bent(60, 0);
+        int first = x.bent(60, 1);
+        x.image();
+        x.forget();
+        x.beam(9, 8, 7);
+        x.weather(6, 5, 1);
+        x.take(0);
+        x.take(1);
+        x.reading(0, 1);
+        span(x, 999, 1, 999);
+        x.back();
+        span(x, 25, 49, 73);
+        due("bent", x.bent(60, 0), bent);
+        due("bent first", x.bent(60, 1), first);
+        x.forget();
+        for (int i = 0; i < 10; i++) x.reading(0, 2);
+        due("back", x.back(), 2);
+        due("one reading", x.about(10), 1);
+        span(x, 25, 49, 73);
     }
 
     private static void about() {
