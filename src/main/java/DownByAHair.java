@@ -301,7 +301,7 @@ public final class DownByAHair {
         Reading fresh = state.readings[state.readingCount];
         fresh.pan = pan;
         fresh.beam = beam;
-        fresh.noteWorld(state);
+        fresh.copyWorld(state);
         fresh.left = scales.left;
         fresh.right = scales.right;
         state.readingCount++;
@@ -524,14 +524,27 @@ public final class DownByAHair {
         return true;
     }
 
-    /** All that an image keeps. */
-    private static final class State {
+    /** What a moment hangs on beside the loads; a reading keeps it as it was. */
+    private abstract static class World {
         int leftArm = 10;
         int rightArm = 10;
         int dull;
         int hour;
         int wet;
         int wind;
+
+        final void copyWorld(World other) {
+            leftArm = other.leftArm;
+            rightArm = other.rightArm;
+            dull = other.dull;
+            hour = other.hour;
+            wet = other.wet;
+            wind = other.wind;
+        }
+    }
+
+    /** All that an image keeps. */
+    private static final class State extends World {
         int things;
         final int[] weight = new int[MOST_THINGS];
         final int[] sort = new int[MOST_THINGS];
@@ -556,12 +569,7 @@ public final class DownByAHair {
          * written over while it stands, and their number is enough.
          */
         void copyFrom(State other) {
-            leftArm = other.leftArm;
-            rightArm = other.rightArm;
-            dull = other.dull;
-            hour = other.hour;
-            wet = other.wet;
-            wind = other.wind;
+            copyWorld(other);
             things = other.things;
             System.arraycopy(other.weight, 0, weight, 0, MOST_THINGS);
             System.arraycopy(other.sort, 0, sort, 0, MOST_THINGS);
@@ -613,38 +621,18 @@ public final class DownByAHair {
     }
 
     /** The beam as it was seen with the unknown load in a pan, and the world as it was then. */
-    private static final class Reading {
+    private static final class Reading extends World {
         int pan;
         int beam;
-        int leftArm;
-        int rightArm;
-        int dull;
-        int hour;
-        int wet;
-        int wind;
         int left;
         int right;
         /** What the unknown load bears, for the weight that is being tried. */
         int load;
 
-        void noteWorld(State state) {
-            leftArm = state.leftArm;
-            rightArm = state.rightArm;
-            dull = state.dull;
-            hour = state.hour;
-            wet = state.wet;
-            wind = state.wind;
-        }
-
         void copyFrom(Reading other) {
+            copyWorld(other);
             pan = other.pan;
             beam = other.beam;
-            leftArm = other.leftArm;
-            rightArm = other.rightArm;
-            dull = other.dull;
-            hour = other.hour;
-            wet = other.wet;
-            wind = other.wind;
             left = other.left;
             right = other.right;
         }
