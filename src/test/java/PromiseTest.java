@@ -247,10 +247,10 @@ public final class PromiseTest {
         due("eight open", sum("((((((((7))))))))"), 7);
         due("eight minuses", sum("--------7"), 7);
         due("both kinds", sum("-(-(-(-(7))))"), 7);
-        String deepest = "1+1*(".repeat(8) + "1+1*1" + ")".repeat(8);
-        due("as much as can wait", sum(deepest), 10);
-        due("as much as can wait", ask("1=2 or 1=1 and 10=" + deepest), true);
-        due("as much as can wait", ask("1=2 or 1=1 and 11=" + deepest), false);
+        String deepest = "1+2*(".repeat(8) + "1+2*1" + ")".repeat(8);
+        due("as much as can wait", sum(deepest), 1023);
+        due("as much as can wait", ask("1=2 or 1=1 and 1023=" + deepest), true);
+        due("as much as can wait", ask("1=2 or 1=1 and 1024=" + deepest), false);
         due("minuses wait too", sum("99+-(9+-(9+-(9+-1*2)*2)*2)*2"), 99 - 2 * (9 - 2 * (9 - 2 * (9 - 2))));
         due("loads", ask("left=20 and right=9"), true);
         due("moment", ask("moment=-7"), true);
@@ -265,6 +265,7 @@ public final class PromiseTest {
             boolean less = relation.charAt(0) == '<' || relation.equals("#");
             due("sums on both sides of " + relation, ask("9-3" + relation + "2+5*1"), less);
             due("a sum's sides of " + relation, ask("5-3" + relation + "2-1*0"), relation.endsWith("="));
+            due("a sum behind " + relation, ask("9" + relation + "2+5"), relation.charAt(0) == '>' || relation.equals("#"));
         }
         due("and binds", ask("1=1 or 1=1 and 1=2"), true);
         due("and binds", ask("1=2 and 1=1 or 1=1"), true);
