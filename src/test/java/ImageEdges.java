@@ -13,8 +13,8 @@ final class ImageEdges {
     private static void image() {
         Due.promise(26, "THE IMAGE is as all is now: how many THINGS there are.");
         Due.is("of a new one", new DownByAHair().image(), 0);
-        Due.is("of some", Twins.furnished().image(), 5);
-        Due.is("of a full one", Twins.full().image(), 12);
+        Due.is("of some", Made.furnished().image(), 5);
+        Due.is("of a full one", Made.full().image(), 12);
         DownByAHair x = new DownByAHair();
         for (int i = 0; i < 12; i++) {
             x.thing(i + 1, 0);
@@ -22,16 +22,16 @@ final class ImageEdges {
         }
         Due.is("the latest", x.back(), 12);
         // an image changes nothing but the image
-        DownByAHair one = Twins.furnished();
+        DownByAHair one = Made.furnished();
         one.image();
-        for (int what = 0; what < 14; what++) Due.is("about " + what, one.about(what), Twins.furnished().about(what));
+        for (int what = 0; what < 14; what++) Due.is("about " + what, one.about(what), Made.furnished().about(what));
         Due.is("the steps stay", one.undo(), 3);
     }
 
     private static void back() {
         Due.promise(27, "BACK to THE IMAGE (it stays): how many THINGS there are.");
         Due.is("of a new one", new DownByAHair().back(), 0);
-        DownByAHair x = Twins.furnished();
+        DownByAHair x = Made.furnished();
         Due.is("to fewer things", x.back(), 2);
         for (int i = 0; i < 3; i++) {
             Due.is("a new thing", x.thing(999, 9), 2);
@@ -48,7 +48,7 @@ final class ImageEdges {
         Due.is("to twelve", y.back(), 12);
         Due.is("they are", y.of(11, 1), 5);
         Twins.idle("back to what is", () -> {
-            DownByAHair z = Twins.furnished();
+            DownByAHair z = Made.furnished();
             z.image();
             return z;
         }, DownByAHair::back, 5);
@@ -66,7 +66,7 @@ final class ImageEdges {
         x.undo();
         x.pass(7);
         x.forget();
-        for (int i = 0; i < 10; i++) x.reading(i % 2, i % 3);
+        for (int i = 0; i < 10; i++) x.reading(1 - i % 2, i % 3);
         for (int i = 0; i < 12; i++) x.thing(500 + i, 2);
         Tape.read(x, "bears 1;safe 1=2;wait 5;");
         x.by(x.about(7) - 1);
@@ -76,20 +76,20 @@ final class ImageEdges {
 
     private static void backToAll() {
         Due.term("AN IMAGE: all as it is, but the tape and the latest FAULT. BACK: all is so again.");
-        DownByAHair changed = Twins.furnished();
+        DownByAHair changed = Made.furnished();
         changed.image();
         changeAll(changed, "wait 7; take 0;");
         Due.is("back", changed.back(), 5);
-        DownByAHair left = Twins.furnished();
+        DownByAHair left = Made.furnished();
         left.image();
         Twins.alike("back to some", changed, left);
 
-        DownByAHair full = Twins.full();
+        DownByAHair full = Made.full();
         full.image();
         // four texts are there: no text is read, so the fault stays
-        changeAll(full, Twins.longest());
+        changeAll(full, Made.longest());
         Due.is("back", full.back(), 12);
-        DownByAHair whole = Twins.full();
+        DownByAHair whole = Made.full();
         whole.image();
         Twins.alike("back to a full one", full, whole);
     }

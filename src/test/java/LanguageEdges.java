@@ -24,6 +24,8 @@ final class LanguageEdges {
         faultOne();
         faultTwo();
         faultThree();
+        eightOpen();
+        nothingIsLeftOfAFault();
         faultFour();
         faultFive();
         faultSix();
@@ -373,6 +375,17 @@ final class LanguageEdges {
         value("-(-9999*9999-5)", 1000000);
     }
 
+    /** An ask alone, and beside others that leave it as it is or turn it around. */
+    private static void related(String ask, boolean due) {
+        Due.is(ask, ask(ask), due);
+        Due.is("not " + ask, ask("not " + ask), !due);
+        Due.is("not not " + ask, ask("not not " + ask), due);
+        Due.is(ask + " and so", ask(ask + " and 1=1"), due);
+        Due.is("so and " + ask, ask("1=1 and " + ask), due);
+        Due.is(ask + " or not so", ask(ask + " or 1=2"), due);
+        Due.is("not so or " + ask, ask("1=2 or " + ask), due);
+    }
+
     private static void truth() {
         Due.term("or and and look at both sides always.");
         String[] so = {"1=2", "1=1"};
@@ -389,6 +402,12 @@ final class LanguageEdges {
             Due.is("or or " + bits, ask(x + " or " + y + " or " + z), a || b || c);
             Due.is("not and " + bits, ask("not " + x + " and " + y + " and not " + z), !a && b && !c);
             Due.is("not or " + bits, ask("not " + x + " or " + y + " and not not " + z), !a || b && c);
+        }
+        for (String relation : new String[] {"<", "<=", ">", ">=", "=", "#"}) {
+            boolean unlike = relation.equals("#");
+            related("9-3" + relation + "2+5*1", unlike || relation.charAt(0) == '<');
+            related("9-1" + relation + "2+5*1", unlike || relation.charAt(0) == '>');
+            related("9-2" + relation + "2+5*1", relation.endsWith("="));
         }
         Due.is("a side by 0", ask("1=1 or 1/0=1"), true);
         Due.is("a side by 0", ask("1=2 and 1/0=0"), false);
@@ -482,6 +501,35 @@ final class LanguageEdges {
         stands("bears ((((((((1)+(1))-(1))*-1)/-1)+1)-1)+-1)+((((((((1))))))));");
         fault("bears ((((((((1)+(1))-(1))*-1)/-1)+1)-1)+-1)+(((((((((1", 3, 45 + 8);
         fault("bears (((((((1-(1-(1", 3, 18);
+    }
+
+    /** With a sum and a product begun in each of eight brackets, behind an or, an and and a relation. */
+    private static void eightOpen() {
+        Due.term("3 the 9th of ( not and - (of one ONE) that are open around one another (at it).");
+        String deepest = "1+2*(".repeat(8) + "1+2*1" + ")".repeat(8);
+        Due.is("eight brackets", sum(deepest), 1023);
+        Due.is("behind all that can wait", ask("1=2 or 1=1 and 1023=" + deepest), true);
+        Due.is("behind all that can wait", ask("1=2 or 1=1 and 1024=" + deepest), false);
+        Due.is("nots and brackets", ask("1=2 or 1=1 and not not not not 63=" + "1+2*(".repeat(4) + "1+2*1" + ")".repeat(4)), true);
+        Due.is("minuses and brackets", sum("99+-(9+-(9+-(9+-1*2)*2)*2)*2"), 99 - 2 * (9 - 2 * (9 - 2 * (9 - 2))));
+    }
+
+    /** What was open or waiting where a text had its fault is not so in the next one. */
+    private static void nothingIsLeftOfAFault() {
+        Due.term("3 the 9th of ( not and - (of one ONE) that are open around one another (at it).");
+        String[] wrong = {"bears 1+2*(3-(4*-(5+-(!", "bears --------!", "bears ((((((((!", "safe not not not not 1<(!", "safe 1=1 or 1=1 and not 1<!"};
+        for (String text : wrong) {
+            DownByAHair x = new DownByAHair();
+            x.thing(7, 0);
+            Due.is("text " + text, Tape.read(x, text), -1);
+            Due.is("fault of " + text, x.fault(0), 1);
+            Due.is("the next", Tape.read(x, "bears ((((((((weight))))))))*3+1;safe not not not not not not not not 1<2;"), 0);
+            x.by(0);
+            Due.is("bears", x.of(0, 3), 22);
+            Due.is("safe", x.now(4), 1);
+            Due.is("a bracket that isn't open", Tape.read(x, "bears 1);"), -1);
+            Due.is("fault", x.fault(0), 1);
+        }
     }
 
     private static void faultFour() {

@@ -19,8 +19,7 @@ final class ReadingEdges {
     }
 
     private static DownByAHair even(int... weights) {
-        DownByAHair x = new DownByAHair();
-        for (int weight : weights) x.thing(weight, 0);
+        DownByAHair x = Made.withThings(weights);
         x.beam(1, 1, 0);
         return x;
     }
@@ -65,19 +64,19 @@ final class ReadingEdges {
 
     private static void readingRefused() {
         Due.promise(19, "NONE for others, or if there are 10.");
-        for (int pan : new int[] {-1, -2, 2, 3, MIN, MAX}) Twins.idle("reading " + pan + " 0", Twins::furnished, x -> x.reading(pan, 0), -1);
-        for (int beam : new int[] {-1, -2, 3, 4, MIN, MAX}) Twins.idle("reading 0 " + beam, Twins::furnished, x -> x.reading(0, beam), -1);
+        for (int pan : new int[] {-1, -2, 2, 3, MIN, MAX}) Twins.idle("reading " + pan + " 0", Made::furnished, x -> x.reading(pan, 0), -1);
+        for (int beam : new int[] {-1, -2, 3, 4, MIN, MAX}) Twins.idle("reading 0 " + beam, Made::furnished, x -> x.reading(0, beam), -1);
         for (int beam = 0; beam < 3; beam++) {
             int told = beam;
-            Twins.idle("the 11th", Twins::full, x -> x.reading(0, told), -1);
-            Twins.idle("the 11th", Twins::full, x -> x.reading(1, told), -1);
+            Twins.idle("the 11th", Made::full, x -> x.reading(0, told), -1);
+            Twins.idle("the 11th", Made::full, x -> x.reading(1, told), -1);
         }
     }
 
     private static void forget() {
         Due.promise(20, "No READINGS: how many there were.");
         Twins.idle("none", DownByAHair::new, DownByAHair::forget, 0);
-        DownByAHair full = Twins.full();
+        DownByAHair full = Made.full();
         Due.is("ten", full.forget(), 10);
         Due.is("none", full.about(10), 0);
         Due.is("none again", full.forget(), 0);
@@ -85,7 +84,7 @@ final class ReadingEdges {
         Due.is("arms without readings", full.bent(1, 0), 400);
         for (int i = 1; i <= 10; i++) Due.is("ten again", full.reading(0, 1), i);
         Due.is("the 11th", full.reading(0, 1), -1);
-        DownByAHair one = Twins.furnished();
+        DownByAHair one = Made.furnished();
         Due.is("three", one.forget(), 3);
         Due.is("steps stay", one.about(9), 4);
         one.back();
@@ -129,7 +128,7 @@ final class ReadingEdges {
         int[] due = {8, 45, 52};
         for (int what = 0; what < 3; what++) {
             int asked = what;
-            Twins.idle("span " + what, Twins::furnished, x -> x.span(asked), due[what]);
+            Twins.idle("span " + what, Made::furnished, x -> x.span(asked), due[what]);
         }
     }
 
@@ -195,7 +194,7 @@ final class ReadingEdges {
     private static void spanRefused() {
         Due.promise(21, "NONE for others.");
         for (int what : new int[] {-1, -2, 3, 4, MIN, MAX}) {
-            Twins.idle("span " + what, Twins::furnished, x -> x.span(what), -1);
+            Twins.idle("span " + what, Made::furnished, x -> x.span(what), -1);
             Twins.idle("span " + what + " without readings", DownByAHair::new, x -> x.span(what), -1);
         }
     }
@@ -269,12 +268,12 @@ final class ReadingEdges {
         for (int x : new int[] {0, -1, 1000, 1001, MIN, MAX}) {
             for (int what = 0; what < 2; what++) {
                 int asked = what;
-                Twins.idle("bent " + x + " " + what, Twins::furnished, y -> y.bent(x, asked), -1);
+                Twins.idle("bent " + x + " " + what, Made::furnished, y -> y.bent(x, asked), -1);
                 Twins.idle("bent " + x + " " + what + " without readings", DownByAHair::new, y -> y.bent(x, asked), -1);
             }
         }
         for (int what : new int[] {-1, -2, 2, 3, MIN, MAX}) {
-            Twins.idle("bent 1 " + what, Twins::furnished, y -> y.bent(1, what), -1);
+            Twins.idle("bent 1 " + what, Made::furnished, y -> y.bent(1, what), -1);
             Twins.idle("bent 1 " + what + " without readings", DownByAHair::new, y -> y.bent(1, what), -1);
         }
     }

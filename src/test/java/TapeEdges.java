@@ -55,7 +55,7 @@ final class TapeEdges {
 
     private static void feedRefused() {
         Due.promise(5, "NONE, and none come, if there would be more than 300.");
-        Twins.idle("feed of a full tape", Twins::full, x -> x.feed(0, 0, 0, 0, 0), -1);
+        Twins.idle("feed of a full tape", Made::full, x -> x.feed(0, 0, 0, 0, 0), -1);
         for (int bytes : new int[] {281, 282, 299, 300}) {
             Twins.idle("feed behind " + bytes, () -> fed(bytes), x -> x.feed(0, 0, 0, 0, 0), -1);
         }
@@ -64,8 +64,8 @@ final class TapeEdges {
     private static void end() {
         Due.promise(6, "The tape has its first n bytes alone: n.");
         Twins.idle("end 0 of an empty tape", DownByAHair::new, x -> x.end(0), 0);
-        Twins.idle("end with all", Twins::furnished, x -> x.end(15), 15);
-        Twins.idle("end with all 300", Twins::full, x -> x.end(300), 300);
+        Twins.idle("end with all", Made::furnished, x -> x.end(15), 15);
+        Twins.idle("end with all 300", Made::full, x -> x.end(300), 300);
         for (int n : new int[] {299, 281, 1, 0}) {
             DownByAHair x = fed(300);
             Due.is("end " + n, x.end(n), n);
@@ -85,6 +85,14 @@ final class TapeEdges {
         Due.is("bears 12;", x.text(), 0);
         x.by(0);
         Due.is("bears", x.of(0, 3), 12);
+        cutOff(x, "bears hours;", 10, 10);
+        cutOff(x, "wait 123;", 6, 6);
+        cutOff(x, "bears 1<=2;", 8, 7);
+        cutOff(x, " ".repeat(293) + "bears ;", 300 - 2, 298);
+        Due.is("300 bytes, the last a letter", Tape.read(x, " ".repeat(290) + "bears hour"), -1);
+        Due.is("at the end", x.fault(1), 300);
+        Due.is("300 bytes, the last a digit", Tape.read(x, " ".repeat(290) + "bears 1234"), -1);
+        Due.is("at the end", x.fault(1), 300);
         Tape.lay(x, "wait 1;wait 2;");
         x.end(13);
         Due.is("the last byte is cut off", x.text(), -1);
@@ -92,21 +100,30 @@ final class TapeEdges {
         Due.is("at the end", x.fault(1), 13);
     }
 
+    /** What was cut off from a text is not read: it has fault 1 at this place. */
+    private static void cutOff(DownByAHair x, String text, int n, int place) {
+        Tape.lay(x, text);
+        x.end(n);
+        Due.is(text + " cut to " + n, x.text(), -1);
+        Due.is("fault", x.fault(0), 1);
+        Due.is("place", x.fault(1), place);
+    }
+
     private static void endRefused() {
         Due.promise(6, "NONE, and nothing is done, if it has not so many, or n is below 0.");
         for (int n : new int[] {16, 17, 300, MAX, -1, -2, MIN}) {
-            Twins.idle("end " + n, Twins::furnished, x -> x.end(n), -1);
+            Twins.idle("end " + n, Made::furnished, x -> x.end(n), -1);
         }
         Twins.idle("end 1 of an empty tape", DownByAHair::new, x -> x.end(1), -1);
         Twins.idle("end -1 of an empty tape", DownByAHair::new, x -> x.end(-1), -1);
-        Twins.idle("end 301", Twins::full, x -> x.end(301), -1);
+        Twins.idle("end 301", Made::full, x -> x.end(301), -1);
     }
 
     private static void fourTexts() {
         Due.term("==== II. TEXTS 0 .. 3: of up to 300 bytes.");
         DownByAHair x = new DownByAHair();
         x.thing(1, 0);
-        String[] texts = {"", "bears 7;", Twins.longest(), " ".repeat(290) + "bears 300;"};
+        String[] texts = {"", "bears 7;", Made.longest(), " ".repeat(290) + "bears 300;"};
         int[] borne = {1, 7, 147, 300};
         Due.promise(7, "The tape (empty then) is a TEXT: its number.");
         for (int i = 0; i < 4; i++) {
@@ -132,8 +149,8 @@ final class TapeEdges {
     /** All but the tape and the fault stays: of two texts with the same fault nothing else is left. */
     private static void textWithFault() {
         Due.promise(7, "NONE: it has a FAULT;");
-        DownByAHair one = Twins.furnished();
-        DownByAHair other = Twins.furnished();
+        DownByAHair one = Made.furnished();
+        DownByAHair other = Made.furnished();
         Due.is("text", Tape.read(one, "wait 1;bears left;"), -1);
         Due.is("the tape is empty", one.about(11), 0);
         Due.is("texts", one.about(7), 2);
@@ -154,7 +171,7 @@ final class TapeEdges {
 
     private static void fifthText() {
         Due.promise(7, "or (the tape stays) there are 4.");
-        Twins.idle("a fifth text", Twins::full, DownByAHair::text, -1);
+        Twins.idle("a fifth text", Made::full, DownByAHair::text, -1);
         DownByAHair x = new DownByAHair();
         for (int i = 0; i < 4; i++) Tape.read(x, "");
         Tape.lay(x, "bears ");
@@ -176,7 +193,7 @@ final class TapeEdges {
         Tape.read(x, "!");
         Due.is("fault", x.fault(0), 1);
         Due.is("the least place", x.fault(1), 0);
-        String text = Twins.longest();
+        String text = Made.longest();
         Tape.read(x, text.substring(0, 299) + " ");
         Due.is("fault", x.fault(0), 1);
         Due.is("the greatest place", x.fault(1), 300);
@@ -186,14 +203,14 @@ final class TapeEdges {
         Tape.read(x, text);
         Due.is("without again", x.fault(0), 0);
         Due.is("without again", x.fault(1), -1);
-        Twins.idle("fault 0", Twins::furnished, y -> y.fault(0), 2);
-        Twins.idle("fault 1", Twins::furnished, y -> y.fault(1), 6);
+        Twins.idle("fault 0", Made::furnished, y -> y.fault(0), 2);
+        Twins.idle("fault 1", Made::furnished, y -> y.fault(1), 6);
     }
 
     private static void faultOfOthers() {
         Due.promise(8, "NONE for others, and ahead of any.");
         for (int what : new int[] {-1, -2, 2, 3, MIN, MAX}) {
-            Twins.idle("fault " + what, Twins::furnished, x -> x.fault(what), -1);
+            Twins.idle("fault " + what, Made::furnished, x -> x.fault(what), -1);
             Due.is("fault " + what + " ahead of any", new DownByAHair().fault(what), -1);
         }
         DownByAHair x = new DownByAHair();
@@ -205,8 +222,8 @@ final class TapeEdges {
     private static void by() {
         Due.promise(9, "THE TEXT (NONE: none): true.");
         Twins.idle("by none where none is", DownByAHair::new, x -> x.by(-1) ? 1 : 0, 1);
-        Twins.idle("by the one that rules", Twins::furnished, x -> x.by(1) ? 1 : 0, 1);
-        DownByAHair x = Twins.full();
+        Twins.idle("by the one that rules", Made::furnished, x -> x.by(1) ? 1 : 0, 1);
+        DownByAHair x = Made.full();
         for (int text : new int[] {0, 3, 1, 2}) {
             Due.is("by " + text, x.by(text), true);
             Due.is("the text", x.about(8), text);
@@ -221,11 +238,11 @@ final class TapeEdges {
     private static void byRefused() {
         Due.promise(9, "False for others.");
         for (int text : new int[] {-2, -3, 2, 3, 4, MIN, MAX}) {
-            Twins.idle("by " + text, Twins::furnished, x -> x.by(text) ? 1 : 0, 0);
+            Twins.idle("by " + text, Made::furnished, x -> x.by(text) ? 1 : 0, 0);
         }
-        Twins.idle("by 4 of 4", Twins::full, x -> x.by(4) ? 1 : 0, 0);
+        Twins.idle("by 4 of 4", Made::full, x -> x.by(4) ? 1 : 0, 0);
         Twins.idle("by 0 where none is", DownByAHair::new, x -> x.by(0) ? 1 : 0, 0);
-        DownByAHair x = Twins.full();
+        DownByAHair x = Made.full();
         x.back();
         Due.is("a text that the image has not", x.by(2), false);
         Due.is("one that it has", x.by(1), true);

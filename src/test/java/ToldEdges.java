@@ -53,8 +53,8 @@ final class ToldEdges {
 
         // what is done to one object is not done to another
         DownByAHair other = new DownByAHair();
-        Twins.furnished();
-        Twins.full();
+        Made.furnished();
+        Made.full();
         Twins.alike("beside others", other, new DownByAHair());
     }
 
@@ -114,14 +114,14 @@ final class ToldEdges {
     private static void beamRefused() {
         Due.promise(2, "False for others.");
         for (int arm : new int[] {0, -1, 100, 101, MIN, MAX}) {
-            Twins.idle("beam " + arm + " 5 5", Twins::furnished, x -> x.beam(arm, 5, 5) ? 1 : 0, 0);
-            Twins.idle("beam 5 " + arm + " 5", Twins::furnished, x -> x.beam(5, arm, 5) ? 1 : 0, 0);
+            Twins.idle("beam " + arm + " 5 5", Made::furnished, x -> x.beam(arm, 5, 5) ? 1 : 0, 0);
+            Twins.idle("beam 5 " + arm + " 5", Made::furnished, x -> x.beam(5, arm, 5) ? 1 : 0, 0);
         }
         for (int dull : new int[] {-1, -2, 10000, 10001, MIN, MAX}) {
-            Twins.idle("beam 5 5 " + dull, Twins::furnished, x -> x.beam(5, 5, dull) ? 1 : 0, 0);
+            Twins.idle("beam 5 5 " + dull, Made::furnished, x -> x.beam(5, 5, dull) ? 1 : 0, 0);
         }
-        Twins.idle("beam 0 0 -1", Twins::furnished, x -> x.beam(0, 0, -1) ? 1 : 0, 0);
-        Twins.idle("beam 100 100 10000", Twins::furnished, x -> x.beam(100, 100, 10000) ? 1 : 0, 0);
+        Twins.idle("beam 0 0 -1", Made::furnished, x -> x.beam(0, 0, -1) ? 1 : 0, 0);
+        Twins.idle("beam 100 100 10000", Made::furnished, x -> x.beam(100, 100, 10000) ? 1 : 0, 0);
     }
 
     private static void thing(int weight, int sort) {
@@ -165,13 +165,13 @@ final class ToldEdges {
     private static void thingRefused() {
         Due.promise(3, "NONE for others, or if there are 12.");
         for (int weight : new int[] {0, -1, 1000, 1001, MIN, MAX}) {
-            Twins.idle("thing " + weight + " 5", Twins::furnished, x -> x.thing(weight, 5), -1);
+            Twins.idle("thing " + weight + " 5", Made::furnished, x -> x.thing(weight, 5), -1);
         }
         for (int sort : new int[] {-1, -2, 10, 11, MIN, MAX}) {
-            Twins.idle("thing 5 " + sort, Twins::furnished, x -> x.thing(5, sort), -1);
+            Twins.idle("thing 5 " + sort, Made::furnished, x -> x.thing(5, sort), -1);
         }
-        Twins.idle("the 13th", Twins::full, x -> x.thing(5, 5), -1);
-        Twins.idle("the 13th, a wrong one", Twins::full, x -> x.thing(0, 10), -1);
+        Twins.idle("the 13th", Made::full, x -> x.thing(5, 5), -1);
+        Twins.idle("the 13th, a wrong one", Made::full, x -> x.thing(0, 10), -1);
     }
 
     private static void told(int hour, int wet, int wind) {
@@ -196,13 +196,13 @@ final class ToldEdges {
     private static void weatherRefused() {
         Due.promise(4, "False for others.");
         for (int hour : new int[] {-1, -2, 24, 25, MIN, MAX}) {
-            Twins.idle("weather " + hour + " 5 5", Twins::furnished, x -> x.weather(hour, 5, 5) ? 1 : 0, 0);
+            Twins.idle("weather " + hour + " 5 5", Made::furnished, x -> x.weather(hour, 5, 5) ? 1 : 0, 0);
         }
         for (int wet : new int[] {-1, -2, 10, 11, MIN, MAX}) {
-            Twins.idle("weather 5 " + wet + " 5", Twins::furnished, x -> x.weather(5, wet, 5) ? 1 : 0, 0);
+            Twins.idle("weather 5 " + wet + " 5", Made::furnished, x -> x.weather(5, wet, 5) ? 1 : 0, 0);
         }
         for (int wind : new int[] {-10, -11, 10, 11, MIN, MAX}) {
-            Twins.idle("weather 5 5 " + wind, Twins::furnished, x -> x.weather(5, 5, wind) ? 1 : 0, 0);
+            Twins.idle("weather 5 5 " + wind, Made::furnished, x -> x.weather(5, 5, wind) ? 1 : 0, 0);
         }
     }
 
@@ -212,8 +212,8 @@ final class ToldEdges {
         int[] full = {12, 10, 10, 0, 3, 0, 0, 4, -1, 40, 10, 300, 1, 2};
         for (int what = 0; what < 14; what++) {
             int asked = what;
-            Twins.idle("about " + what, Twins::furnished, x -> x.about(asked), some[what]);
-            Twins.idle("about " + what + " of a full one", Twins::full, x -> x.about(asked), full[what]);
+            Twins.idle("about " + what, Made::furnished, x -> x.about(asked), some[what]);
+            Twins.idle("about " + what + " of a full one", Made::full, x -> x.about(asked), full[what]);
         }
         DownByAHair x = new DownByAHair();
         for (int i = 0; i < 12; i++) x.thing(1, 0);
@@ -227,7 +227,7 @@ final class ToldEdges {
         Due.is("no bits", x.about(12), 0);
         Due.promise(28, "-100 for others.");
         for (int what : new int[] {-1, -2, 14, 15, MIN, MAX}) {
-            Twins.idle("about " + what, Twins::furnished, y -> y.about(what), -100);
+            Twins.idle("about " + what, Made::furnished, y -> y.about(what), -100);
         }
     }
 

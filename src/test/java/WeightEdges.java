@@ -18,12 +18,6 @@ final class WeightEdges {
         restRefused();
     }
 
-    private static DownByAHair withThings(int... weights) {
-        DownByAHair x = new DownByAHair();
-        for (int weight : weights) x.thing(weight, 0);
-        return x;
-    }
-
     private static void balanced(DownByAHair x, int load, int... due) {
         for (int what = 0; what < 3; what++) Due.is("balanced " + load + " " + what, x.balanced(load, what), due[what]);
     }
@@ -35,22 +29,23 @@ final class WeightEdges {
     private static void balanced() {
         Due.term("BALANCED: a load W (1 .. 999) beside some THINGS against others, by WEIGHTS alone: WEIGHTS on the other side less those beside it are W.");
         Due.promise(23, "BALANCED: 0 how many THINGS, 1 all that are used (bits), 2 those beside the load.");
-        balanced(withThings(1), 1, 1, 1, 0);
-        cannot(withThings(1), 2);
-        balanced(withThings(999), 999, 1, 1, 0);
-        cannot(withThings(999), 998);
-        balanced(withThings(999, 1), 998, 2, 3, 2);
-        balanced(withThings(998, 999), 1, 2, 3, 1);
-        balanced(withThings(500, 499), 999, 2, 3, 0);
-        cannot(withThings(500, 500), 999);
-        cannot(withThings(500, 500), 1);
-        DownByAHair all = withThings(1, 2, 4, 8, 16, 32, 64, 128, 256, 400, 44, 44);
+        balanced(Made.withThings(1), 1, 1, 1, 0);
+        cannot(Made.withThings(1), 2);
+        balanced(Made.withThings(999), 999, 1, 1, 0);
+        cannot(Made.withThings(999), 998);
+        balanced(Made.withThings(999, 1), 998, 2, 3, 2);
+        balanced(Made.withThings(998, 999), 1, 2, 3, 1);
+        balanced(Made.withThings(500, 499), 999, 2, 3, 0);
+        cannot(Made.withThings(500, 500), 999);
+        cannot(Made.withThings(500, 500), 1);
+        DownByAHair all = Made.withThings(1, 2, 4, 8, 16, 32, 64, 128, 256, 400, 44, 44);
         balanced(all, 999, 12, 4095, 0);
-        balanced(withThings(83, 83, 83, 83, 83, 83, 83, 83, 83, 83, 83, 83), 996, 12, 4095, 0);
+        balanced(Made.withThings(83, 83, 83, 83, 83, 83, 83, 83, 83, 83, 83, 83), 996, 12, 4095, 0);
         // the load with eleven ones against the twelfth thing
-        balanced(withThings(1, 1, 1, 1, 1, 1, 1, 1, 1, 1, 1, 999), 988, 12, 4095, 2047);
-        Due.is("the twelfth thing alone", withThings(2, 2, 2, 2, 2, 2, 2, 2, 2, 2, 2, 999).balanced(999, 1), 2048);
-        DownByAHair told = withThings(7, 2);
+        balanced(Made.withThings(1, 1, 1, 1, 1, 1, 1, 1, 1, 1, 1, 999), 988, 12, 4095, 2047);
+        balanced(Made.withThings(999, 1, 1, 1, 1, 1, 1, 1, 1, 1, 1, 1), 988, 12, 4095, 4094);
+        Due.is("the twelfth thing alone", Made.withThings(2, 2, 2, 2, 2, 2, 2, 2, 2, 2, 2, 999).balanced(999, 1), 2048);
+        DownByAHair told = Made.withThings(7, 2);
         told.put(0, 0);
         told.put(1, 1);
         Tape.read(told, "bears 500;safe 1=2;");
@@ -58,23 +53,23 @@ final class WeightEdges {
         told.weather(0, 0, 9);
         told.beam(1, 99, 9999);
         balanced(told, 5, 2, 3, 2);
-        Twins.idle("balanced", Twins::furnished, x -> x.balanced(24, 1), 10);
+        Twins.idle("balanced", Made::furnished, x -> x.balanced(24, 1), 10);
     }
 
     private static void balancedByTheFewest() {
         Due.term("By the fewest THINGS; of like ones the lowest set of all that are used, then the lowest set of those beside it.");
-        balanced(withThings(1, 2, 3), 3, 1, 4, 0);
-        balanced(withThings(3, 1, 2, 3), 3, 1, 1, 0);
-        balanced(withThings(1, 4, 5, 2, 3), 9, 2, 6, 0);
-        balanced(withThings(5, 9, 1, 4, 3), 4, 1, 8, 0);
+        balanced(Made.withThings(1, 2, 3), 3, 1, 4, 0);
+        balanced(Made.withThings(3, 1, 2, 3), 3, 1, 1, 0);
+        balanced(Made.withThings(1, 4, 5, 2, 3), 9, 2, 6, 0);
+        balanced(Made.withThings(5, 9, 1, 4, 3), 4, 1, 8, 0);
         // 4 is 5 less 1 (of 0 and 2), 9 less 5 (of 0 and 1), 1 and 3 (of 2 and 3): the lowest set is 0 and 1
-        balanced(withThings(5, 9, 1, 3), 4, 2, 3, 1);
+        balanced(Made.withThings(5, 9, 1, 3), 4, 2, 3, 1);
         // like ones: the first two
-        balanced(withThings(6, 6, 6, 6), 12, 2, 3, 0);
-        balanced(withThings(6, 6, 6, 6, 5), 1, 2, 17, 16);
+        balanced(Made.withThings(6, 6, 6, 6), 12, 2, 3, 0);
+        balanced(Made.withThings(6, 6, 6, 6, 5), 1, 2, 17, 16);
         // a set of three is taken only where none of two is, though its number is lower
-        balanced(withThings(1, 2, 4, 6, 1), 7, 2, 9, 0);
-        balanced(withThings(1, 2, 4, 900, 907), 7, 2, 24, 8);
+        balanced(Made.withThings(1, 2, 4, 6, 1), 7, 2, 9, 0);
+        balanced(Made.withThings(1, 2, 4, 900, 907), 7, 2, 24, 8);
     }
 
     private static void balancedRefused() {
@@ -82,16 +77,16 @@ final class WeightEdges {
         for (int what = 0; what < 3; what++) {
             int asked = what;
             for (int load : new int[] {0, -1, 1000, 1001, MIN, MAX}) {
-                Twins.idle("balanced " + load + " " + what, Twins::furnished, x -> x.balanced(load, asked), -1);
+                Twins.idle("balanced " + load + " " + what, Made::furnished, x -> x.balanced(load, asked), -1);
             }
             Due.is("no things", new DownByAHair().balanced(1, what), -1);
-            Due.is("1000 of two", withThings(999, 1).balanced(1000, what), -1);
-            Due.is("0 of two like ones", withThings(5, 5).balanced(0, what), -1);
-            Twins.idle("it can't be", Twins::full, x -> x.balanced(79, asked), -1);
+            Due.is("1000 of two", Made.withThings(999, 1).balanced(1000, what), -1);
+            Due.is("0 of two like ones", Made.withThings(5, 5).balanced(0, what), -1);
+            Twins.idle("it can't be", Made::full, x -> x.balanced(79, asked), -1);
         }
-        Due.is("all twelve together", Twins.full().balanced(78, 1), 4095);
+        Due.is("all twelve together", Made.full().balanced(78, 1), 4095);
         for (int what : new int[] {-1, -2, 3, 4, MIN, MAX}) {
-            Twins.idle("balanced 1 " + what, Twins::furnished, x -> x.balanced(1, what), -1);
+            Twins.idle("balanced 1 " + what, Made::furnished, x -> x.balanced(1, what), -1);
         }
     }
 
@@ -117,7 +112,7 @@ final class WeightEdges {
         weights(14, 1, 2, 3, 8);
         weights(39, 1, 3, 9, 26);
         weights(40, 1, 3, 9, 27);
-        Twins.idle("weights", Twins::furnished, x -> x.weights(40, 3), 27);
+        Twins.idle("weights", Made::furnished, x -> x.weights(40, 3), 27);
     }
 
     private static boolean covers(int n, int... weights) {
@@ -170,11 +165,11 @@ final class WeightEdges {
         for (int i = -1; i < 5; i++) {
             int asked = i;
             for (int n : new int[] {0, -1, 41, 42, MIN, MAX}) {
-                Twins.idle("weights " + n + " " + i, Twins::furnished, x -> x.weights(n, asked), -1);
+                Twins.idle("weights " + n + " " + i, Made::furnished, x -> x.weights(n, asked), -1);
             }
         }
-        for (int i : new int[] {-2, -3, 4, 5, MIN, MAX}) Twins.idle("weights 40 " + i, Twins::furnished, x -> x.weights(40, i), -1);
-        for (int i : new int[] {-2, 1, 2, 3, 4, MIN, MAX}) Twins.idle("weights 1 " + i, Twins::furnished, x -> x.weights(1, i), -1);
+        for (int i : new int[] {-2, -3, 4, 5, MIN, MAX}) Twins.idle("weights 40 " + i, Made::furnished, x -> x.weights(40, i), -1);
+        for (int i : new int[] {-2, 1, 2, 3, 4, MIN, MAX}) Twins.idle("weights 1 " + i, Made::furnished, x -> x.weights(1, i), -1);
     }
 
     private static void rest(String what, DownByAHair x, int seed, int n, int level, int longest) {
@@ -205,8 +200,8 @@ final class WeightEdges {
         rest("third", dull(79), 0, 3, 1, 1);
         rest("fourth", dull(79), 0, 4, 2, 1);
         rest("all four", dull(80), 0, 4, 4, 4);
-        Twins.idle("rest", Twins::furnished, x -> x.rest(9999, 99, 0), 0);
-        DownByAHair never = withThings(999);
+        Twins.idle("rest", Made::furnished, x -> x.rest(9999, 99, 0), 0);
+        DownByAHair never = Made.withThings(999);
         never.put(0, 0);
         rest("never", never, 0, 99, 0, 0);
     }
@@ -216,7 +211,7 @@ final class WeightEdges {
         Due.term("(What is BORNE by that HOUR and WIND.)");
         for (int hour = 0; hour < 24; hour++) {
             for (int n : new int[] {1, 2, 23, 24, 25, 48, 99}) {
-                DownByAHair x = withThings(1);
+                DownByAHair x = Made.withThings(1);
                 Tape.read(x, "bears 1000*(hour/23);");
                 x.by(0);
                 x.put(0, 1);
@@ -236,7 +231,7 @@ final class WeightEdges {
                 Due.is("no step more", x.about(9), 1);
             }
         }
-        DownByAHair wind = withThings(1);
+        DownByAHair wind = Made.withThings(1);
         Tape.read(wind, "bears 100+wind;");
         wind.by(0);
         wind.put(0, 1);
@@ -244,7 +239,7 @@ final class WeightEdges {
         rest("what the wind adds it takes away", wind, 77, 99, 99, 99);
         wind.beam(1, 10, 999);
         rest("but for the rest", wind, 77, 99, 0, 0);
-        DownByAHair wet = withThings(1);
+        DownByAHair wet = Made.withThings(1);
         Tape.read(wet, "bears 100*wet;");
         wet.by(0);
         wet.put(0, 1);
@@ -278,8 +273,8 @@ final class WeightEdges {
 
     private static void restRefused() {
         Due.promise(25, "NONE for others.");
-        for (int seed : new int[] {-1, -2, 10000, 10001, MIN, MAX}) Twins.idle("rest " + seed + " 1 0", Twins::furnished, x -> x.rest(seed, 1, 0), -1);
-        for (int n : new int[] {0, -1, 100, 101, MIN, MAX}) Twins.idle("rest 0 " + n + " 0", Twins::furnished, x -> x.rest(0, n, 0), -1);
-        for (int what : new int[] {-1, -2, 2, 3, MIN, MAX}) Twins.idle("rest 0 1 " + what, Twins::furnished, x -> x.rest(0, 1, what), -1);
+        for (int seed : new int[] {-1, -2, 10000, 10001, MIN, MAX}) Twins.idle("rest " + seed + " 1 0", Made::furnished, x -> x.rest(seed, 1, 0), -1);
+        for (int n : new int[] {0, -1, 100, 101, MIN, MAX}) Twins.idle("rest 0 " + n + " 0", Made::furnished, x -> x.rest(0, n, 0), -1);
+        for (int what : new int[] {-1, -2, 2, 3, MIN, MAX}) Twins.idle("rest 0 1 " + what, Made::furnished, x -> x.rest(0, 1, what), -1);
     }
 }
