@@ -20,6 +20,7 @@ final class LanguageEdges {
         fromTheLeft();
         division();
         held();
+        heldNames();
         truth();
         faultOne();
         faultTwo();
@@ -373,6 +374,26 @@ final class LanguageEdges {
         value("(1000*1000)*-(1000*1000)", -1000000);
         value("9999*9999*9999*9999*9999*9999", 1000000);
         value("-(-9999*9999-5)", 1000000);
+    }
+
+    /** A moment can be more than a value: as a name it is held as any other. */
+    private static void heldNames() {
+        Due.term("what is above 1000000 (below the same less) is that, at each step.");
+        for (int pan = 0; pan < 2; pan++) {
+            DownByAHair x = Made.ruled("bears 9999;", 1, 1);
+            x.beam(99, 99, 0);
+            x.put(0, pan);
+            String sign = pan == 0 ? "" : "-";
+            Tape.read(x, "bears 9999;safe moment=" + sign + "(989*1000+901) and turned=989*1000+901;");
+            Tape.read(x, "bears 9999;safe moment=" + sign + "1000*1000 and turned=1000*1000 and turned/1000=1000;");
+            x.by(1);
+            Due.is("within", x.now(4), 1);
+            x.by(0);
+            x.put(1, pan);
+            x.by(2);
+            Due.is("beyond", x.now(4), 1);
+            Due.is("the moment itself is not held", x.now(2), (pan == 0 ? 1 : -1) * 99 * 2 * 9999);
+        }
     }
 
     /** An ask alone, and beside others that leave it as it is or turn it around. */
